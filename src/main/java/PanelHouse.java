@@ -688,14 +688,6 @@ public final class PanelHouse {
             }
         }
 
-        private int kindAt(int at) {
-            return at >= 0 && at < size && at < kinds.length ? kinds[at] : NO_TOKEN;
-        }
-
-        private int placeAt(int at) {
-            return at >= 0 && at < size && at < places.length ? places[at] : 0;
-        }
-
         private static boolean isDigit(int sign) {
             return isWithin(sign, '0', '9');
         }
@@ -762,16 +754,18 @@ public final class PanelHouse {
         private final int[] code = new int[MOST_SIGNS];
         private int codeLength = 0;
         private int at = 0;
+        private int token = NO_TOKEN;
         private int lines = 0;
         private int fault = 0;
 
         private int read(Tape tape) {
             tokens.scan(tape);
             codeLength = 0;
-            at = 0;
             lines = 0;
             fault = 0;
-            for (int i = 0; i <= MOST_LINES && fault == 0 && token() != TEXT_END; i++) {
+            at = -1;
+            goOn();
+            for (int i = 0; i <= MOST_LINES && fault == 0 && token != TEXT_END; i++) {
                 readLine();
             }
             return fault;
@@ -783,7 +777,7 @@ public final class PanelHouse {
         }
 
         private void readLine() {
-            if (token() == RATE && lines >= MOST_LINES) {
+            if (token == RATE && lines >= MOST_LINES) {
                 mark(FAULT_TOO_MANY);
             }
             take(RATE);
@@ -796,7 +790,7 @@ public final class PanelHouse {
         }
 
         private int takeRate() {
-            int rate = token();
+            int rate = token;
             if (!isWithin(rate, 0, FACT - 1)) {
                 mark(FAULT_WRONG);
                 return 0;
@@ -805,14 +799,14 @@ public final class PanelHouse {
                 mark(FAULT_RATE);
                 return 0;
             }
-            at++;
+            goOn();
             return rate;
         }
 
         private void readAnds(int within) {
             readTest(within);
-            for (int i = 0; i < MOST_SIGNS && token() == AND; i++) {
-                at++;
+            for (int i = 0; i < MOST_SIGNS && token == AND; i++) {
+                goOn();
                 readTest(within);
                 write(AND);
             }
@@ -820,9 +814,9 @@ public final class PanelHouse {
 
         private void readTest(int within) {
             readSum(within);
-            int sign = token();
+            int sign = token;
             if (sign == LESS || sign == SAME) {
-                at++;
+                goOn();
                 readSum(within);
                 write(sign);
             }
@@ -830,17 +824,17 @@ public final class PanelHouse {
 
         private void readSum(int within) {
             readPart(within);
-            for (int i = 0; i < MOST_SIGNS && (token() == PLUS || token() == MINUS); i++) {
-                int sign = token();
-                at++;
+            for (int i = 0; i < MOST_SIGNS && (token == PLUS || token == MINUS); i++) {
+                int sign = token;
+                goOn();
                 readPart(within);
                 write(sign);
             }
         }
 
         private void readPart(int within) {
-            int part = token();
-            boolean isValue = isWithin(part, 0, FACT + FACTS - 1);
+            int part = token;
+            boolean isValue = part >= 0 && part < FACT + FACTS;
             if (!isValue && part != OPEN) {
                 mark(FAULT_WRONG);
                 return;
@@ -849,32 +843,40 @@ public final class PanelHouse {
                 mark(FAULT_TOO_MANY);
                 return;
             }
-            at++;
+            goOn();
             if (isValue) {
                 write(part);
                 return;
             }
             readAnds(within + 1);
-            take(CLOSE);
-        }
-
-        /** Behind a fault no token can stand anywhere, so that all reading comes to its end. */
-        private int token() {
-            return fault == 0 ? tokens.kindAt(at) : NO_TOKEN;
-        }
-
-        private void take(int kind) {
-            if (token() == kind) {
-                at++;
+            if (token == CLOSE) {
+                goOn();
             } else {
                 mark(FAULT_WRONG);
             }
         }
 
+        private void take(int kind) {
+            if (token == kind) {
+                goOn();
+            } else {
+                mark(FAULT_WRONG);
+            }
+        }
+
+        private void goOn() {
+            at++;
+            boolean isToken = at >= 0 && at < tokens.size && at < tokens.kinds.length;
+            token = isToken ? tokens.kinds[at] : NO_TOKEN;
+        }
+
+        /** Behind a fault there is no token that could stand anywhere, so that all reading comes to its end. */
         private void mark(int kind) {
             if (fault == 0) {
-                fault = kind + FAULT_PLACE * tokens.placeAt(at);
+                boolean isToken = at >= 0 && at < tokens.size && at < tokens.places.length;
+                fault = kind + FAULT_PLACE * (isToken ? tokens.places[at] : 0);
             }
+            token = NO_TOKEN;
         }
 
         private void write(int step) {

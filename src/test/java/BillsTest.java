@@ -174,6 +174,11 @@ public final class BillsTest {
         Checks.due("both of one month are put right", house.right(0, 2, 2000), 800);
         Checks.due("of the first", house.look(0, 9), 2900 + 400);
         Checks.due("of the second", house.look(1, 9), 400 + 1600 + 1600 + 400);
+        house.paper(0, 0, 1000);
+        house.weeks(2);
+        house.sign(1, 0);
+        house.weeks(1);
+        Checks.due("one week alone", house.look(2, 9), 100);
     }
 
     private static void printedInTheMonth() {

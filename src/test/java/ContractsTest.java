@@ -77,6 +77,7 @@ public final class ContractsTest {
         house.weeks(1);
         Checks.due("it ran out", house.sign(0, 0), 101);
         Checks.due("first week of the second", house.look(1, 2), 8);
+        Checks.due("it has the second", house.sign(0, 0), 2);
     }
 
     private static void barred() {

@@ -8,6 +8,7 @@ public final class TextsTest {
         feedLimit();
         rightTexts();
         wrongTokens();
+        wrongWords();
         wrongPlaces();
         wrongEnds();
         rates();
@@ -95,12 +96,34 @@ public final class TextsTest {
         reads("rate 1 when 1 2;", fault(1, 14));
     }
 
+    /** Each word with one letter changed, taken out or put behind is another word. */
+    private static void wrongWords() {
+        for (String word : new String[] {"kind", "thousands", "printed", "month", "weeks"}) {
+            reads("rate 1 when " + word + ";", 0);
+            for (int i = 0; i < word.length(); i++) {
+                reads("rate 1 when " + word.substring(0, i) + "x" + word.substring(i + 1) + ";", fault(1, 12));
+                reads("rate 1 when " + word.substring(0, i) + word.substring(i + 1) + ";", fault(1, 12));
+            }
+            reads("rate 1 when " + word + "s;", fault(1, 12));
+        }
+        for (int i = 0; i < 4; i++) {
+            reads("rate".substring(0, i) + "x" + "rate".substring(i + 1) + " 1 when 1;", fault(1, 0));
+            reads("rate 1 " + "when".substring(0, i) + "x" + "when".substring(i + 1) + " 1;", fault(1, 7));
+        }
+        for (int i = 0; i < 3; i++) {
+            reads("rate 1 when 1 " + "and".substring(0, i) + "x" + "and".substring(i + 1) + " 1;", fault(1, 14));
+        }
+    }
+
     private static void wrongPlaces() {
         reads("when", fault(1, 0));
         reads(";", fault(1, 0));
         reads("1", fault(1, 0));
         reads("rate rate 1 when 1;", fault(1, 5));
         reads("rate kind when 1;", fault(1, 5));
+        reads("rate when 1;", fault(1, 5));
+        reads("1 when 1;", fault(1, 0));
+        reads("rate 1 kind;", fault(1, 7));
         reads("rate -1 when 1;", fault(1, 5));
         reads("rate (1) when 1;", fault(1, 5));
         reads("rate 1 1;", fault(1, 7));

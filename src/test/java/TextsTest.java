@@ -79,6 +79,8 @@ public final class TextsTest {
     private static void wrongTokens() {
         reads("*", fault(1, 0));
         reads("Rate 1 when 1;", fault(1, 0));
+        reads("  let", fault(1, 2));
+        reads("\n \n*", fault(1, 3));
         reads("rate 1 when a;", fault(1, 12));
         reads("rate 1 when 1 > 2;", fault(1, 14));
         reads("rate 1 when 12345;", fault(1, 12));

@@ -1,4 +1,4 @@
-/** What is billed, put right and shared: the document's third and fourth part and promises 5, 17 and 18, at their edges. */
+/** What is billed, put right and shared (the document's third and fourth part, promises 5, 17 and 18), at its edges. */
 public final class EdgesOfBillsTest {
     private static final int NONE = PanelHouse.NONE;
 
@@ -19,6 +19,7 @@ public final class EdgesOfBillsTest {
         andTellsOneOrNothing();
         lessAndSame();
         fromTheLeft();
+        fiveWithinOneAnother();
         monthThatIsOver();
         rightByTheTextOfThatMonth();
         rightMayBeBelowNothing();
@@ -291,6 +292,14 @@ public final class EdgesOfBillsTest {
         String most = "9999" + Checks.times("+9999", 60);
         Checks.due("most", billBy("rate 1 when 9999<" + most + ";"), 4);
         Checks.due("least", billBy("rate 1 when 0-" + most.replace('+', '-') + "<0-9999;"), 4);
+    }
+
+    /** "5 within one another", with an "and", a test and a sum waiting at each: every one turns the next round. */
+    private static void fiveWithinOneAnother() {
+        String turns = Checks.times("1 and 0<1-(", 4);
+        Checks.due("from 1", billBy("rate 1 when " + turns + "2-1))));"), 4);
+        Checks.due("from 0", billBy("rate 1 when " + turns + "1-1))));"), 0);
+        Checks.due("three from 0", billBy("rate 1 when " + Checks.times("1 and 0<1-(", 3) + "1-1)));"), 4);
     }
 
     /** Promise 5: "a MONTH that is not over": over is a month with its fourth week. */

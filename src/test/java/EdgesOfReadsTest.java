@@ -1,4 +1,4 @@
-/** Promises 1, 15, 16, 19 and 20: what is read of an empty house, of the first and the last of a kind, and of the running month. */
+/** Promises 1, 15, 16, 19 and 20: what is read of an empty house, of the first and the last there is, of the running month. */
 public final class EdgesOfReadsTest {
     private static final int NONE = PanelHouse.NONE;
 

@@ -283,6 +283,7 @@ public final class EdgesOfTextsTest {
         reads(HEAD + "(1;", fault(1, AT + 2));
         reads("rate 1 1;", fault(1, 7));
         reads("rate kind when 1;", fault(1, 5));
+        reads("rate when 1;", fault(1, 5));
         reads("rate;", fault(1, 4));
         reads(LINE + ";", fault(1, LINE.length()));
     }

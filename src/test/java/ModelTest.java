@@ -2,7 +2,7 @@ import java.util.Random;
 
 /** Long runs of drawn calls, each answer compared with that of HouseModel; the seeds are written, so runs are the same. */
 public final class ModelTest {
-    private static final int RUNS = 1500;
+    private static final int RUNS = 1800;
     private static final int CALLS = 512;
     private static final int[] ODD = {-1, 0, Integer.MIN_VALUE, Integer.MAX_VALUE, 20, 60, 10, 100000, 100001};
     private static final String[] FACTS = {"kind", "thousands", "printed", "month", "weeks"};
@@ -14,6 +14,7 @@ public final class ModelTest {
     private final HouseModel model = new HouseModel();
     private final int bias;
     private String call = "";
+    private int calls = 0;
 
     private ModelTest(long seed) {
         random = new Random(seed);
@@ -23,7 +24,7 @@ public final class ModelTest {
     public static void main(String[] args) {
         for (int seed = 0; seed < RUNS; seed++) {
             ModelTest run = new ModelTest(seed);
-            for (int i = 0; i < CALLS; i++) {
+            for (int i = 0; run.calls < CALLS; i++) {
                 run.step("run " + seed + " call " + i + ": ", i);
             }
         }
@@ -40,7 +41,12 @@ public final class ModelTest {
         return odd == 0 ? ODD[below(ODD.length)] : odd == 1 ? n : below(Math.max(n, 1));
     }
 
+    /** Behind its 512th call an object's answers are free, so none is asked for. */
     private void both(String name, Checks.Call ours, Checks.Call theirs) {
+        if (calls >= CALLS) {
+            return;
+        }
+        calls++;
         Checks.tell(call + name, Checks.outcome(ours), Checks.outcome(theirs));
     }
 

@@ -83,6 +83,7 @@ public final class EdgesOfBillsTest {
         Checks.due("no week, no bill", house.look(0, 9), 200);
     }
 
+    /** "BILLED: as a MONTH ends", each of those that end within one call of weeks. */
     private static void severalMonthsInOneCall() {
         PanelHouse house = house("rate 1 when month=0; rate 10 when month=6; rate 100 when month=7;");
         house.weeks(30);
@@ -111,6 +112,7 @@ public final class EdgesOfBillsTest {
         Checks.due("week 9 alone", house.look(0, 9), 204);
     }
 
+    /** "each CONTRACT that ran in one of its WEEKS": one that began behind the month, or ended ahead of it, has no bill. */
     private static void contractThatRanInNone() {
         PanelHouse house = house("rate 1 when 1;");
         house.cancel(0);
@@ -182,6 +184,7 @@ public final class EdgesOfBillsTest {
         Checks.due("no text", house.look(0, 9), 0);
     }
 
+    /** "kind" of a PART: that of the FEATURE, 0 to 3. */
     private static void kinds() {
         for (int kind = 0; kind <= 3; kind++) {
             PanelHouse house = house(kind, 1000);
@@ -359,6 +362,7 @@ public final class EdgesOfBillsTest {
         Checks.due("income of both papers", house.income(1), 9);
     }
 
+    /** "a MONTH that is over" may lie "ahead of its coming": there is no BILL to put right. */
     private static void rightAheadOfItsComing() {
         PanelHouse house = new PanelHouse();
         house.feature(0, 0, 1, 1, 1);

@@ -46,6 +46,7 @@ public final class EdgesOfReadsTest {
         Checks.due("the first contract", house.sign(0, 0), 100);
     }
 
+    /** Promise 1: "No FEATURE, no PAPER", whatever another object was told. */
     private static void objectsApart() {
         PanelHouse busy = Seen.busy();
         String seen = Seen.of(busy);
@@ -154,6 +155,7 @@ public final class EdgesOfReadsTest {
         Checks.due("month 2", house.sells(0, 2), 9);
     }
 
+    /** Promise 19 where "WEEKS are ... 200 at most": month 49 is the last one. */
     private static void sellsOfTheLastMonth() {
         PanelHouse house = new PanelHouse();
         house.paper(0, 0, 5);
@@ -224,6 +226,7 @@ public final class EdgesOfReadsTest {
         Checks.due("of three", house.count(2), 3);
     }
 
+    /** Promises 15 to 20 tell what is there: "Nothing is promised beyond the answers and state changes described". */
     private static void readsChangeNothing() {
         PanelHouse house = Seen.busy();
         PanelHouse twin = Seen.busy();

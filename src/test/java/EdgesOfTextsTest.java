@@ -129,6 +129,7 @@ public final class EdgesOfTextsTest {
         reads("rate1when kind and(weeks);", 0);
     }
 
+    /** "blanks (10, 32) between": one within a token makes two of it. */
     private static void blanksWithinATokenPartIt() {
         reads("ra te 1 when 1;", fault(1, 0));
         reads("rate 1 0 when 1;", fault(1, 7));

@@ -134,6 +134,7 @@ public final class EdgesOfWeeksTest {
         Checks.due("ill in week 8", more.panel(0), 2);
     }
 
+    /** Promise 8: "n WEEKS (1 to 50) from the next one on", though "200 at most" are left. */
     private static void illBeyondTheLastWeek() {
         PanelHouse house = house();
         pass(house, 199);
@@ -170,6 +171,7 @@ public final class EdgesOfWeeksTest {
         run(house, "the week", 0, 1, 1, 1);
     }
 
+    /** "unless a miss was told for this WEEK": the next WEEK's can be told again. */
     private static void missForThisWeekAlone() {
         PanelHouse house = house();
         house.miss(0);
@@ -182,6 +184,7 @@ public final class EdgesOfWeeksTest {
         run(house, "1 and 3 are missing", 0, 1, 4, 2);
     }
 
+    /** Promise 10: "A miss is told for a CONTRACT", not for its FEATURE. */
     private static void missOfOneContract() {
         PanelHouse house = house();
         house.paper(0, 0, 1000);
@@ -195,6 +198,7 @@ public final class EdgesOfWeeksTest {
         Checks.due("missing of the second", house.look(1, 8), 2);
     }
 
+    /** "if its FEATURE has a new PANEL": without one, or without a running CONTRACT, a miss is of no effect. */
     private static void missInAWeekWithoutPanel() {
         PanelHouse house = house();
         house.stop(0, true);
@@ -273,6 +277,7 @@ public final class EdgesOfWeeksTest {
         run(without, "1 and 2 without one of this week's", 2, 3, 0, 0);
     }
 
+    /** "it PRINTS the next PANEL of its run ...; and then ... one more", however many wait. */
     private static void twoAtMost() {
         PanelHouse house = house();
         house.miss(0);
